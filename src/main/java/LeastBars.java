@@ -34,6 +34,7 @@ public final class LeastBars {
     private final Trail trail;
     private int machineCount;
     private int freeSet;
+    private int partSet;
 
     public LeastBars() {
         tape = new Tape();
@@ -51,6 +52,7 @@ public final class LeastBars {
         trail = new Trail();
         machineCount = 0;
         freeSet = 0;
+        partSet = NONE;
         joinAnew();
         controlAnew();
     }
@@ -200,15 +202,11 @@ public final class LeastBars {
         if (set < 0 || set > setOfAllMachines() || what < 0 || what > 1) {
             return OUTSIDE;
         }
-        part.join(machines, set);
+        joinPart(set);
         if (part.isOver) {
             return NONE;
         }
-        if (what == 0) {
-            return part.size;
-        }
-        part.measure(nothingLost);
-        return part.countStuck();
+        return what == 0 ? part.size : part.countStuck();
     }
 
     // ---- 4 the plant as it goes
@@ -274,6 +272,16 @@ public final class LeastBars {
 
     private void joinAnew() {
         net.join(machines, setOfAllMachines());
+        partSet = NONE;
+    }
+
+    /** The part is kept till the MACHINES change, as one set is mostly asked for more than once. */
+    private void joinPart(int set) {
+        if (set != partSet) {
+            part.join(machines, set);
+            part.measure(nothingLost);
+            partSet = set;
+        }
     }
 
     private void controlAnew() {
@@ -517,7 +525,7 @@ public final class LeastBars {
         private void gatherAlphabets(Machine[] machines, int set) {
             alphabet = 0;
             plantAlphabet = 0;
-            for (int m = 0; m < machines.length; m++) {
+            for (int m = 0; m < machines.length && set >> m != 0; m++) {
                 if (isIn(set, m)) {
                     alphabet |= machines[m].alphabet;
                     if (machines[m].kind == PLANT) {
@@ -530,7 +538,7 @@ public final class LeastBars {
         private void spreadFrom(int n, Machine[] machines, int set) {
             int missedByPlants = 0;
             int missedByRules = 0;
-            for (int m = 0; m < machines.length; m++) {
+            for (int m = 0; m < machines.length && set >> m != 0; m++) {
                 if (isIn(set, m)) {
                     int missed = machines[m].missingSet(stateIn(n, m));
                     if (machines[m].kind == PLANT) {
@@ -565,7 +573,7 @@ public final class LeastBars {
         /** An EVENT that LEADS moves just the MACHINES that have a step by it. */
         private int codeBehind(int code, int e, Machine[] machines, int set) {
             int next = code;
-            for (int m = 0; m < machines.length; m++) {
+            for (int m = 0; m < machines.length && set >> m != 0; m++) {
                 if (isIn(set, m)) {
                     int to = machines[m].target(code >> m * BITS & MASK, e);
                     if (to != NONE) {
@@ -604,7 +612,7 @@ public final class LeastBars {
         }
 
         private boolean allMarked(int code, Machine[] machines, int set) {
-            for (int m = 0; m < machines.length; m++) {
+            for (int m = 0; m < machines.length && set >> m != 0; m++) {
                 if (isIn(set, m) && !isIn(machines[m].marked, code >> m * BITS & MASK)) {
                     return false;
                 }
@@ -846,8 +854,12 @@ public final class LeastBars {
 
         /** JOINTS are come to in the order of their first WORDS, for both queue and EVENTS go by it. */
         private void spreadFrom(int n, Net net, Losses losses) {
+            int leading = net.leadSet(n);
             int barred = 0;
-            for (int e = 0; e < EVENTS; e++) {
+            for (int e = 0; e < EVENTS && leading >> e != 0; e++) {
+                if (!isIn(leading, e)) {
+                    continue;
+                }
                 int to = net.target(n, e);
                 if (losses.isLost(to)) {
                     barred |= 1 << e;

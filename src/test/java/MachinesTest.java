@@ -191,6 +191,13 @@ public final class MachinesTest {
         Due.is("wipe()", x.wipe(), 2);
         Due.is("numbers come again", Due.tell(x, 1, "3h4"), 0);
         Due.is("nothing of the one before", x.ofMachine(0, 1), 128);
+        Due.is("nothing of the one before", x.ofMachine(0, 2), 0);
+        Due.is("nothing of the one before", x.ofMachine(0, 3), 1);
+        Due.is("nothing of the one before", x.step(0, 0, 0), LeastBars.NONE);
+        x.drop();
+        Due.tell(x, 1, "0b1");
+        Due.is("nothing of the one before", x.ofMachine(0, 4), 1);
+        Due.is("nothing of the one before", x.joint(0, 1), 2);
     }
 
     private static void free() {
@@ -236,6 +243,12 @@ public final class MachinesTest {
         Due.is("wipe()", x.wipe(), 3);
         Due.is("machine", Due.tell(x, 1, "0b1"), 0);
         Due.is("drop()", x.drop(), 0);
+        Due.is("no EVENT is in an ALPHABET", x.joint(0, 1), 0);
+        x = Due.with("", "P 0a1 *0");
+        x.anew();
+        x.free(0, 1);
+        Due.tell(x, 1, "!a *0");
+        Due.is("no PLANT is there: no CLASH", x.joint(0, 2), 0);
     }
 
     private static void ofMachine() {

@@ -73,6 +73,11 @@ public final class WhyTest {
         Due.is("wave(1)", x.wave(1), 2);
         Due.is("wave(2)", x.wave(2), 1);
         Due.is("wave(3)", x.wave(3), LeastBars.UNKNOWN);
+        // The same, but the one to which b leads has the lesser number.
+        x = Due.with("bch", "P 0a1 0d2 1c3 2b1 2c3 3h3 *0", "R !h *0");
+        chain(x, 1, link(2, 2, 1), link(1, 7, 3));
+        chain(x, 2, link(2, 2, 2), link(1, 7, 3));
+        Due.is("wave(1)", x.wave(1), 2);
     }
 
     private static void leastEvents() {
@@ -157,6 +162,15 @@ public final class WhyTest {
         Due.is("nothing is MARKED", x.some(9, 1), 5);
         Due.is("LOST or not is all the same", x.some(15, 0), x.many(2));
         Due.is("nothing changes", x.many(2), 2);
+        Due.is("some(1, 0)", x.some(1, 0), 5);
+        x.anew();
+        Due.tell(x, 0, "0a1");
+        Due.is("of the MACHINES that there are now", x.some(1, 0), 2);
+        Due.is("of the MACHINES that there are now", x.some(1, 1), 2);
+        x.drop();
+        Due.tell(x, 0, "0a1 1a2 *1");
+        Due.is("of the MACHINES that there are now", x.some(1, 0), 3);
+        Due.is("of the MACHINES that there are now", x.some(1, 1), 1);
     }
 
     private static void someRefusals() {
