@@ -18,17 +18,19 @@ public final class OracleTest {
     }
 
     public static void main(String[] args) {
-        int[] seen = new int[5];
+        int[] seen = new int[6];
         for (int run = 0; run < RUNS; run++) {
             Due.part("run " + run);
-            new OracleTest(run).run(run % 5, seen);
+            new OracleTest(run).run(run % 6, seen);
         }
         Due.holds("some runs were OVER", seen[0] > 10);
         Due.holds("some runs kept some and lost some", seen[1] > 50);
         Due.holds("some runs had four waves or more", seen[2] > 50);
         Due.holds("some runs had sixty JOINTS or more", seen[3] > 20);
         Due.holds("some runs barred something", seen[4] > 50);
-        System.out.println("runs OVER, in part LOST, with many waves, with many JOINTS, BARRED: " + Arrays.toString(seen));
+        Due.holds("some runs had thirty waves or more", seen[5] > 10);
+        System.out.println("runs OVER, in part LOST, with four waves, with many JOINTS, BARRED, with thirty waves: "
+            + Arrays.toString(seen));
         Due.close();
     }
 
@@ -54,6 +56,10 @@ public final class OracleTest {
             ask(4, 7, 1, 0);
             return;
         }
+        if (style == 5) {
+            tellCounter();
+            return;
+        }
         int wanted = 1 + random.nextInt(style == 0 ? 6 : style == 2 ? 2 : 4);
         for (int m = 0; m < wanted; m++) {
             tell(random.nextInt(3) == 0 ? 1 : 0, style == 0 ? ring(m) : style == 2 ? dense(m) : text(style));
@@ -69,6 +75,7 @@ public final class OracleTest {
         seen[2] += y.many(5) >= 4 ? 1 : 0;
         seen[3] += y.many(2) >= 60 ? 1 : 0;
         seen[4] += y.many(7) > 0 ? 1 : 0;
+        seen[5] += y.many(5) >= 30 ? 1 : 0;
     }
 
     /** A MACHINE whose EVENTS are mostly its own, so that there are many JOINTS. */
@@ -116,6 +123,31 @@ public final class OracleTest {
         return text.toString();
     }
 
+    /** Up to 150 JOINTS in a row or nearly so (as in Plants), with long WORDS, chains of reasons and many waves. */
+    private void tellCounter() {
+        tell(0, "0a1 1a2 2a3 3a4 4a5 5b0 5c0" + aside(6, 3));
+        tell(0, "0b1 1b2 2b3 3b4 4c0" + aside(5, 5));
+        tell(0, "0c1 1c2 2c3 3c4" + aside(5, 5));
+        tell(1, "!h *0");
+        for (int e = 0; e < 3; e++) {
+            ask(4, e, random.nextInt(8) == 0 ? 0 : 1, 0);
+        }
+        ask(4, 7, random.nextInt(2), 0);
+    }
+
+    private String aside(int states, int marks) {
+        StringBuilder text = new StringBuilder();
+        for (int i = 0; i < marks; i++) {
+            text.append(" *").append(random.nextInt(3) == 0 ? random.nextInt(states) : (i + 1) % states);
+        }
+        text.append(' ').append(states - 1).append('h').append(random.nextInt(states));
+        if (random.nextInt(3) == 0) {
+            text.append(' ').append(random.nextInt(states)).append((char) ('d' + random.nextInt(2)))
+                .append(random.nextInt(states));
+        }
+        return text.toString();
+    }
+
     private String text(int style) {
         int items = style == 1 ? 1 + random.nextInt(15) : 6 + random.nextInt(9);
         int states = 2 + random.nextInt(style == 4 ? 3 : 5);
@@ -157,8 +189,9 @@ public final class OracleTest {
         return random.nextInt(12) == 0 ? EDGES[random.nextInt(EDGES.length)] : random.nextInt(Math.max(1, bound));
     }
 
-    private int placeInWord() {
-        return random.nextInt(3) == 0 ? Oracle.NONE : number(8);
+    /** A place in a WORD of a length, or just behind it. */
+    private int placeInWord(int length) {
+        return random.nextInt(3) == 0 ? Oracle.NONE : number(Math.max(8, length + 2));
     }
 
     private void some() {
@@ -189,14 +222,18 @@ public final class OracleTest {
             case 8: ask(8, number(joints), number(machines), 0); break;
             case 9: ask(9, number(joints), number(8), 0); break;
             case 10: ask(10, number(joints), number(7), 0); break;
-            case 11: ask(11, number(joints), number(5), number(3)); break;
-            case 12: ask(12, number(6), 0, 0); break;
+            case 11: ask(11, number(joints), number(random.nextInt(3) == 0 ? 150 : 5), number(3)); break;
+            case 12: ask(12, number(y.many(5) + 2), 0, 0); break;
             case 13: ask(13, number(1 << y.many(0)), number(2), 0); break;
-            case 17: ask(17, placeInWord(), 0, 0); break;
-            case 18: ask(18, number(joints), placeInWord(), 0); break;
+            case 17: ask(17, placeInWord(y.finish(Oracle.NONE)), 0, 0); break;
+            case 18: askWord(number(joints)); break;
             case 15: ask(random.nextBoolean() ? 15 : 14, number(8), 0, 0); break;
             default: ask(call, number(8), 0, 0); break;
         }
+    }
+
+    private void askWord(int n) {
+        ask(18, n, placeInWord(y.word(n, Oracle.NONE)), 0);
     }
 
     private void ask(int call, int a, int b, int c) {
